@@ -493,7 +493,8 @@ public final class BrotherAutomata {
             seconds = new int[MOST_RULES];
             constraints = new int[MOST_RULES];
             targets = new int[MOST_RULES];
-            clear();
+            count = 0;
+            finals = 0;
         }
 
         void clear() {
@@ -597,7 +598,8 @@ public final class BrotherAutomata {
             for (int place = 0; place < MOST_UNDOS; place++) {
                 ring[place] = new RuleBook();
             }
-            forget();
+            next = 0;
+            kept = 0;
         }
 
         void forget() {

@@ -40,6 +40,7 @@ final class PromiseTest {
         promise22IsReachable();
         promise23IsEmpty();
         promise24IsUniversal();
+        promise20To27WithSixStates();
         promise25IsComplete();
         promise26IsDeterministic();
         promise27LeastHeight();
@@ -682,6 +683,37 @@ final class PromiseTest {
         Check.due("24 all again", x.isUniversal(), 1);
         x.removeRule(0);
         Check.due("24 a constant is missing", x.isUniversal(), 0);
+    }
+
+    /** The most states there can be: all 64 sets are looked at, and none behind them. */
+    private static void promise20To27WithSixStates() {
+        BrotherAutomata x = new BrotherAutomata();
+        x.reset(6);
+        x.addRule(0, 0, 0, 0, 5);
+        x.addRule(1, 0, 0, 0, 5);
+        x.addRule(2, 5, 0, 0, 5);
+        x.addRule(3, 5, 5, 0, 5);
+        x.addRule(4, 5, 5, 0, 5);
+        x.setFinal(5, true);
+        Check.due("20 {5}", x.treesOfSet(32), 2);
+        Check.due("21 only {5}", x.reachedSets(), 1);
+        Check.due("22 state 5", x.isReachable(5), 1);
+        Check.due("22 state 4", x.isReachable(4), 0);
+        Check.due("23 isEmpty", x.isEmpty(), 0);
+        Check.due("24 isUniversal", x.isUniversal(), 1);
+        Check.due("25 isComplete", x.isComplete(), 1);
+        Check.due("26 isDeterministic", x.isDeterministic(), 1);
+        Check.due("27 leastHeight", x.leastHeight(), 0);
+        for (int state = 0; state < 5; state++) {
+            x.addRule(1, 0, 0, 0, state);
+        }
+        Check.due("20 all states", x.treesOfSet(63), 1);
+        Check.due("21 and all states", x.reachedSets(), 2);
+        Check.due("24 isUniversal", x.isUniversal(), 1);
+        Check.due("26 not deterministic", x.isDeterministic(), 0);
+        x.setFinal(5, false);
+        Check.due("23 nothing is final", x.isEmpty(), 1);
+        Check.due("27 nothing is final", x.leastHeight(), MISSING);
     }
 
     private static void promise25IsComplete() {
