@@ -720,7 +720,7 @@ public final class BrotherAutomata {
         private int layOut(SmallTrees trees, int tree) {
             nodes[0] = tree;
             int used = 1;
-            for (int place = 0; place < used; place++) {
+            for (int place = 0; place < used && place < MOST_SIZE; place++) {
                 int arity = trees.arityAt(nodes[place]);
                 firstPlaces[place] = used;
                 if (arity > 0 && used < MOST_SIZE) {

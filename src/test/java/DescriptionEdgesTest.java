@@ -24,12 +24,15 @@ final class DescriptionEdgesTest {
         roomWhenNoLongerFull();
         initialAutomaton();
         constraintOnEqualAndDifferent();
+        rulesInEachPlace();
+        anotherConstraintInTheSamePlace();
         subsetEmptyAndFull();
         acceptanceByOneFinalState();
         runsOfSameRules();
         noTreeOneTreeManyTrees();
         treesOfAnySize();
         emptySetReachedOrNot();
+        emptySetReachedLast();
         emptyOrOneTree();
         universalOrAllButOneTree();
         completeAndUniversalBeyondSmallTrees();
@@ -256,6 +259,46 @@ final class DescriptionEdgesTest {
         }
     }
 
+    /** What a rule asks for is the same in the first place, in the sixteenth, and in those between. */
+    private static void rulesInEachPlace() {
+        for (int place = 0; place < 16; place++) {
+            for (int constraint = 0; constraint <= 2; constraint++) {
+                BrotherAutomata x = new BrotherAutomata();
+                x.reset(4);
+                for (int rule = 0; rule < 16; rule++) {
+                    if (rule == place) {
+                        x.addRule(3, 0, 1, constraint, 2);
+                    } else {
+                        x.addRule(rule % 2, 0, 0, 0, rule / 2 % 2);
+                    }
+                }
+                String what = "constraint " + constraint + " in place " + place;
+                Check.due(what + ", equal", x.subsetOf(6), constraint == 2 ? 0 : 4);
+                Check.due(what + ", different", x.subsetOf(7), constraint == 1 ? 0 : 4);
+                Check.due(what + ", a child with no such state", x.subsetOf(x.treeOf(3, 2, 0)), 0);
+                Check.due(what + ", a child with no such state", x.subsetOf(x.treeOf(3, 0, 2)), 0);
+                Check.due(what + ", another symbol", x.subsetOf(10), 0);
+                Check.due(what + ", some tree", x.treesOfSet(4), 2);
+            }
+        }
+    }
+
+    /** Nothing of a rule stays behind in its place when another one takes it. */
+    private static void anotherConstraintInTheSamePlace() {
+        BrotherAutomata x = new BrotherAutomata();
+        x.addRule(0, 0, 0, 0, 0);
+        x.addRule(1, 0, 0, 0, 0);
+        for (int change = 0; change < 9; change++) {
+            x.addRule(4, 0, 0, change / 3, 1);
+            Check.due("equal, constraint " + change / 3, x.subsetOf(10), change / 3 == 2 ? 0 : 2);
+            x.removeRule(2);
+            x.addRule(4, 0, 0, change % 3, 1);
+            Check.due("equal, then constraint " + change % 3, x.subsetOf(10), change % 3 == 2 ? 0 : 2);
+            Check.due("different, then constraint " + change % 3, x.subsetOf(11), change % 3 == 1 ? 0 : 2);
+            x.removeRule(2);
+        }
+    }
+
     /** "The subset of a tree is the set of all states to which rules lead from it." */
     private static void subsetEmptyAndFull() {
         BrotherAutomata x = new BrotherAutomata();
@@ -354,6 +397,31 @@ final class DescriptionEdgesTest {
         x.removeRule(1);
         Check.due("{} and {0}", x.reachedSets(), 2);
         Check.due("the constant 1 and what stands above it", x.treesOfSet(0), 2);
+    }
+
+    /**
+     * Only 2(2(2(0))) is the lowest tree of the empty set, and it is found when all else has been found; but what
+     * stands above it has the empty set too. All trees lead to 5, and those that are no such chain to 4.
+     */
+    private static void emptySetReachedLast() {
+        BrotherAutomata x = new BrotherAutomata();
+        x.reset(6);
+        for (int target = 4; target <= 5; target++) {
+            x.addRule(1, 0, 0, 0, target);
+            x.addRule(2, 4, 0, 0, target);
+            x.addRule(3, 5, 5, 0, target);
+            x.addRule(4, 5, 5, 0, target);
+        }
+        x.addRule(0, 0, 0, 0, 0);
+        x.addRule(0, 0, 0, 0, 5);
+        x.addRule(2, 0, 0, 0, 1);
+        x.addRule(2, 0, 0, 0, 5);
+        x.addRule(2, 1, 0, 0, 2);
+        x.addRule(2, 1, 0, 0, 5);
+        Check.due("2(2(0))", x.treesOfSet(4 + 32), 1);
+        Check.due("2(2(2(0))) and what stands above it", x.treesOfSet(0), 2);
+        Check.due("{0, 5}, {1, 5}, {2, 5}, {4, 5} and {}", x.reachedSets(), 5);
+        Check.due("not complete", x.isComplete(), 0);
     }
 
     /** "The automaton is empty if it accepts no tree at all." */

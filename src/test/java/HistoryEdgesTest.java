@@ -95,6 +95,7 @@ final class HistoryEdgesTest {
         x.reset(3);
         x.addRule(0, 0, 0, 0, 0);
         x.addRule(2, 0, 0, 0, 1);
+        x.addRule(3, 0, 1, 2, 2);
         x.setFinal(0, true);
     }
 

@@ -4,6 +4,18 @@ import java.util.Random;
 final class ModelTest {
     private static final int[] ODD = {-1, -2, 5, 6, 7, 8, 16, 63, 64, 2277, 2278, Integer.MIN_VALUE, Integer.MAX_VALUE};
 
+    /** Found by search: the subset construction goes on for more than forty heights until nothing grows. */
+    private static final int[][][] SLOW = {
+        {{2, 5, 0, 0, 0}, {3, 2, 2, 2, 0}, {2, 2, 0, 0, 3}, {4, 0, 5, 1, 3}, {0, 0, 0, 0, 3}, {3, 0, 0, 1, 4},
+            {2, 2, 0, 0, 3}, {4, 1, 2, 2, 0}, {2, 4, 0, 0, 1}, {2, 0, 0, 0, 4}, {4, 2, 0, 1, 2}, {2, 1, 0, 0, 5},
+            {2, 3, 0, 0, 2}, {2, 5, 0, 0, 4}, {4, 1, 1, 0, 0}, {3, 1, 3, 2, 4}},
+        {{1, 0, 0, 0, 3}, {2, 5, 0, 0, 3}, {3, 4, 5, 2, 4}, {3, 5, 4, 2, 3}, {3, 1, 5, 2, 2}, {2, 0, 0, 0, 2},
+            {2, 4, 0, 0, 0}, {3, 0, 0, 2, 1}, {4, 5, 1, 2, 1}, {2, 1, 0, 0, 1}, {0, 0, 0, 0, 4}, {2, 2, 0, 0, 5},
+            {2, 3, 0, 0, 4}, {1, 0, 0, 0, 0}, {4, 2, 3, 1, 4}, {3, 1, 3, 2, 0}},
+        {{1, 0, 0, 0, 2}, {3, 3, 5, 2, 0}, {3, 2, 2, 0, 3}, {4, 2, 0, 1, 0}, {2, 5, 0, 0, 4}, {4, 0, 5, 0, 3},
+            {2, 0, 0, 0, 1}, {4, 5, 3, 2, 0}, {2, 3, 0, 0, 4}, {2, 1, 0, 0, 5}, {3, 0, 1, 2, 1}, {2, 5, 0, 0, 3},
+            {2, 4, 0, 0, 0}, {2, 2, 0, 0, 2}, {4, 3, 1, 1, 2}, {3, 0, 4, 0, 4}}};
+
     private final Random random;
     private final String name;
     private final BrotherAutomata object = new BrotherAutomata();
@@ -21,6 +33,9 @@ final class ModelTest {
         }
         for (long seed = 1001; seed <= 1400 && !Check.anyFailed(); seed++) {
             new ModelTest(seed).wholeAutomaton();
+        }
+        for (int[][] rules : SLOW) {
+            new ModelTest(0).slowAutomaton(rules);
         }
         Check.close("ModelTest");
     }
@@ -64,6 +79,24 @@ final class ModelTest {
             int state = tree % states;
             due(tree, "runCount", object.runCount(tree, state), model.runCount(tree, state));
         }
+    }
+
+    private void slowAutomaton(int[][] rules) {
+        reset(6);
+        for (int[] rule : rules) {
+            due(0, "addRule", object.addRule(rule[0], rule[1], rule[2], rule[3], rule[4]),
+                    model.addRule(rule[0], rule[1], rule[2], rule[3], rule[4]));
+        }
+        for (int set = 0; set < 64; set++) {
+            due(set, "treesOfSet", object.treesOfSet(set), model.treesOfSet(set));
+        }
+        for (int state = 0; state < 6; state++) {
+            due(state, "setFinal", object.setFinal(state, true), model.setFinal(state, true));
+            due(state, "leastHeight", object.leastHeight(), model.leastHeight());
+            due(state, "setFinal", object.setFinal(state, false), model.setFinal(state, false));
+            due(state, "isReachable", object.isReachable(state), model.isReachable(state));
+        }
+        due(0, "reachedSets", object.reachedSets(), model.reachedSets());
     }
 
     private void due(int call, String what, int got, int want) {

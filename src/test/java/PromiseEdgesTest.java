@@ -26,6 +26,7 @@ final class PromiseEdgesTest {
         promise5Rule();
         promise5FirstAndLastRule();
         promise6States();
+        promise6FinalStates();
         promise6NumberOfRules();
         promise7NoneAndFull();
         promise8NoneAndAll();
@@ -41,8 +42,10 @@ final class PromiseEdgesTest {
         promise20Set();
         promise21OneAndAllSets();
         promise22State();
+        promise20To27FirstAsked();
         promise23To26WithoutRules();
         promise27NoneLeastAndGreat();
+        promise27LeastOfSeveral();
         promise28Undo();
         Check.close("PromiseEdgesTest");
     }
@@ -288,6 +291,23 @@ final class PromiseEdgesTest {
             Check.due("6 last and first", x.swapStates(last, 0), 1);
             Check.due("6 the rule", x.subsetOf(0), 1 << last);
             Check.due("6 the final state", x.finalStates(), 1 << last);
+        }
+    }
+
+    /** "..and among the final states": none, one, the other, or both of them final. */
+    private static void promise6FinalStates() {
+        for (int finals = 0; finals < 8; finals++) {
+            BrotherAutomata x = withStates(3);
+            for (int state = 0; state < 3; state++) {
+                x.setFinal(state, (finals >> state & 1) == 1);
+            }
+            int swapped = finals & 2 | finals >> 2 & 1 | (finals & 1) << 2;
+            x.swapStates(0, 2);
+            Check.due("6 swapStates(0, 2), finals " + finals, x.finalStates(), swapped);
+            x.swapStates(2, 0);
+            Check.due("6 swapStates(2, 0), finals " + swapped, x.finalStates(), finals);
+            x.swapStates(1, 1);
+            Check.due("6 swapStates(1, 1), finals " + finals, x.finalStates(), finals);
         }
     }
 
@@ -600,6 +620,46 @@ final class PromiseEdgesTest {
         }
     }
 
+    /** Each question is the first one after an edit, after an undo and after reset, and holds for what is now. */
+    private static void promise20To27FirstAsked() {
+        int[] whenUniversal = {2, 1, 1, 0, 1, 1, 1, 0};
+        int[] withoutConstant = {2, 2, 1, 0, 0, 0, 1, 0};
+        int[] withoutRules = {0, 1, 0, 1, 0, 0, 1, MISSING};
+        for (int question = 0; question < 8; question++) {
+            BrotherAutomata x = universal(2);
+            Check.due("question " + question + " after edits", asked(x, question), whenUniversal[question]);
+            x.removeRule(1);
+            Check.due("question " + question + " after removeRule", asked(x, question), withoutConstant[question]);
+            x.undo();
+            Check.due("question " + question + " after undo", asked(x, question), whenUniversal[question]);
+            x.reset(2);
+            Check.due("question " + question + " after reset", asked(x, question), withoutRules[question]);
+            x.addRule(1, 0, 0, 0, 0);
+            x.setFinal(0, true);
+            int[] oneTree = {1, 2, 1, 0, 0, 0, 1, 0};
+            Check.due("question " + question + " after addRule", asked(x, question), oneTree[question]);
+            x.swapStates(0, 1);
+            int[] swapped = {0, 2, 0, 0, 0, 0, 1, 0};
+            Check.due("question " + question + " after swapStates", asked(x, question), swapped[question]);
+            x.setFinal(1, false);
+            int[] noFinal = {0, 2, 0, 1, 0, 0, 1, MISSING};
+            Check.due("question " + question + " after setFinal", asked(x, question), noFinal[question]);
+        }
+    }
+
+    private static int asked(BrotherAutomata x, int question) {
+        return switch (question) {
+            case 0 -> x.treesOfSet(1);
+            case 1 -> x.reachedSets();
+            case 2 -> x.isReachable(0);
+            case 3 -> x.isEmpty();
+            case 4 -> x.isUniversal();
+            case 5 -> x.isComplete();
+            case 6 -> x.isDeterministic();
+            default -> x.leastHeight();
+        };
+    }
+
     private static void promise23To26WithoutRules() {
         for (int states = 1; states <= 6; states++) {
             BrotherAutomata x = withStates(states);
@@ -650,6 +710,22 @@ final class PromiseEdgesTest {
         Check.due("27 only one tree of {4}", x.leastHeight(), MISSING);
         x.undo();
         Check.due("27 two again", x.leastHeight(), 10);
+    }
+
+    /** The least height is not that of the first set, nor that of the last one. */
+    private static void promise27LeastOfSeveral() {
+        int[][] orders = {{0, 1, 2}, {0, 2, 1}, {1, 0, 2}, {1, 2, 0}, {2, 0, 1}, {2, 1, 0}};
+        for (int[] order : orders) {
+            BrotherAutomata x = withStates(4);
+            x.addRule(0, 0, 0, 0, 3);
+            x.addRule(2, 3, 0, 0, order[0]);
+            x.addRule(2, order[0], 0, 0, order[1]);
+            x.addRule(2, order[1], 0, 0, order[2]);
+            for (int place = 2; place >= 0; place--) {
+                x.setFinal(order[place], true);
+                Check.due("27 least of " + (3 - place), x.leastHeight(), place + 1);
+            }
+        }
     }
 
     private static void promise28Undo() {
